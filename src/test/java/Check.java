@@ -2,6 +2,7 @@
 final class Check {
     private static int passed = 0;
     private static int failed = 0;
+    private static String prefix = "";
 
     private Check() {
     }
@@ -26,7 +27,7 @@ final class Check {
         throwsJust(what, IllegalStateException.class, call);
     }
 
-    private static void throwsJust(String what, Class<?> due, Runnable call) {
+    static void throwsJust(String what, Class<?> due, Runnable call) {
         Class<?> thrown = null;
         try {
             call.run();
@@ -42,9 +43,18 @@ final class Check {
         } else {
             failed++;
             if (failed <= 50) {
-                System.out.println(whenWrong);
+                System.out.println(prefix + whenWrong);
             }
         }
+    }
+
+    /** What is wrong from now on is printed with the name of a test ahead of it. */
+    static void beginTest(String name) {
+        prefix = name + ": ";
+    }
+
+    static int checks() {
+        return passed + failed;
     }
 
     /** Prints the counts, and ends the run with 1 if something was wrong. */
