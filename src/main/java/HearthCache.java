@@ -575,7 +575,6 @@ public final class HearthCache {
             }
         }
 
-
         private void forward(int kind, int core, int request) {
             counts[kind == Message.KILL ? KILLS_SENT : FETCHES_SENT]++;
             mail.send(FORWARD, core, Message.of(kind, Message.lineOf(request), 0, NONE));
@@ -593,8 +592,9 @@ public final class HearthCache {
         int state = INVALID;
         int value = 0;
         int usedAt = 0;
+        // What came while the line waited; nobody looks at it when it does not wait any more.
         boolean killCame = false;
-        // FETCH or TAKE, if one came while the line waited; else NOTHING.
+        // FETCH or TAKE, if one came; else NOTHING.
         int forwardCame = NOTHING;
 
         boolean isEmpty() {
@@ -616,8 +616,6 @@ public final class HearthCache {
         void becomeEmpty() {
             line = NONE;
             state = INVALID;
-            killCame = false;
-            forwardCame = NOTHING;
         }
 
         void waitFor(int newLine, boolean toBeWritten) {
@@ -630,8 +628,6 @@ public final class HearthCache {
         void fill(int newState, int newValue) {
             state = newState;
             value = newValue;
-            killCame = false;
-            forwardCame = NOTHING;
         }
     }
 
@@ -1000,7 +996,6 @@ public final class HearthCache {
             if (place == null || !place.waits()) {
                 return;
             }
-            int forward = place.forwardCame;
             if (state == SHARED && place.killCame) {
                 place.becomeEmpty();
             } else {
@@ -1008,8 +1003,8 @@ public final class HearthCache {
                 use(place);
             }
             // It broke a transaction, if it had to, when it came.
-            if (forward != Place.NOTHING) {
-                giveUp(forward, line);
+            if (place.forwardCame != Place.NOTHING) {
+                giveUp(place.forwardCame, line);
             }
         }
     }

@@ -435,17 +435,19 @@ public final class CachesBoundaryTest extends Cases {
         is("line 0", x.stateOf(0, 0), LEAVING);
     }
 
+    /** Line 0 is in it, and was used longest ago; the others have come, but have not been loaded with a value. */
     @Sentence("and whose lines are in no transaction of the core")
     static void cachesALineThatATransactionHasLoadedIsNotPutOut() {
         HearthCache x = new HearthCache();
-        fill(x, 0);
         x.begin(0);
-        for (int line : new int[] {0, 5, 3}) {
+        read(x, 0, 0);
+        for (int line : new int[] {5, 3, 9}) {
             x.load(0, line);
+            x.pump(20);
         }
         x.load(0, 12);
-        is("line 9, though it was used last but three", x.stateOf(0, 9), LEAVING);
         is("line 0", x.stateOf(0, 0), EXCLUSIVE);
+        is("line 5", x.stateOf(0, 5), LEAVING);
     }
 
     @Sentence("and whose lines are in no transaction of the core")
@@ -674,10 +676,20 @@ public final class CachesBoundaryTest extends Cases {
         HearthCache x = withForwardBeforeData(false, true);
         x.pump(20);
         x.add(1, 3, 1);
-        x.load(0, 3);
+        x.add(0, 3, 1);
         x.pump(20);
-        is("SHARED, and it stays", x.stateOf(0, 3), SHARED);
+        is("MODIFIED, and it stays", x.stateOf(0, 3), MODIFIED);
         is("its value", x.load(0, 3), 1);
+        is("no ANSWER is left", x.queued(ANSWER, HOME), 0);
+    }
+
+    @Sentence("if a FETCH or TAKE came for it while it waited, that is done now")
+    static void cachesARememberedTakeIsDoneForItsLineAlone() {
+        HearthCache x = withForwardBeforeData(false, true);
+        x.pump(20);
+        x.load(0, 8);
+        x.pump(20);
+        is("another line in the place stays", x.stateOf(0, 8), EXCLUSIVE);
         is("no ANSWER is left", x.queued(ANSWER, HOME), 0);
     }
 

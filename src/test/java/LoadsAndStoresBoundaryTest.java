@@ -254,8 +254,12 @@ public final class LoadsAndStoresBoundaryTest extends Cases {
     static void stridesAnotherOneAsksNothing() {
         HearthCache x = loaded(0, 1, 4, 6);
         is("3, then 2", x.counter(STRIDES), 0);
-        HearthCache y = loaded(0, 4, 7, 4);
+        HearthCache y = new HearthCache();
+        readAll(y, 0, 4, 7);
+        own(y, 1, 4, 1);
+        is("read anew", y.load(0, 4), NONE);
         is("3, then -3", y.counter(STRIDES), 0);
+        is("READs", y.counter(READS), 3);
     }
 
     /** Core 1 takes the line each time, so that core 0 reads it anew. */
@@ -318,20 +322,22 @@ public final class LoadsAndStoresBoundaryTest extends Cases {
     static void stridesAskForNoLineThatIsThere() {
         HearthCache held = new HearthCache();
         own(held, 0, 7, 3);
-        for (int line = 1; line <= 5; line += 2) {
-            held.load(0, line);
-        }
+        meetLine7WithAnEmptyPlace(held);
         is("MODIFIED", held.stateOf(0, 7), MODIFIED);
-        is("by strides", held.counter(STRIDES), 0);
         HearthCache shared = new HearthCache();
-        own(shared, 1, 7, 3);
         own(shared, 0, 7, 4);
         read(shared, 1, 7);
-        for (int line = 1; line <= 5; line += 2) {
-            shared.load(0, line);
-        }
+        meetLine7WithAnEmptyPlace(shared);
         is("SHARED", shared.stateOf(0, 7), SHARED);
-        is("by strides", shared.counter(STRIDES), 0);
+    }
+
+    private static void meetLine7WithAnEmptyPlace(HearthCache x) {
+        readAll(x, 0, 1, 3);
+        own(x, 1, 1, 1);
+        int reads = x.counter(READS);
+        is("1, 3 and 5", x.load(0, 5), NONE);
+        is("by strides", x.counter(STRIDES), 0);
+        is("READ of line 5", x.counter(READS), reads + 1);
     }
 
     /** Line 6 waits when the stride of 2 is met again, and a place is empty. */
@@ -460,10 +466,9 @@ public final class LoadsAndStoresBoundaryTest extends Cases {
         HearthCache x = new HearthCache();
         x.load(0, 1);
         x.load(0, 4);
-        x.load(0, 1);
         x.load(0, 4);
         x.load(0, 7);
-        is("lines 1, 4 and 7 were sent for", x.stateOf(0, 10), WAITS_READ);
+        is("lines 1, 4 and 7 were sent for, 4 once", x.stateOf(0, 10), WAITS_READ);
         HearthCache y = new HearthCache();
         y.store(0, 4, 1);
         y.load(0, 1);

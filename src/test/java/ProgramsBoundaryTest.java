@@ -73,6 +73,17 @@ public final class ProgramsBoundaryTest extends Cases {
         outcomesAre(x, STRICT, 0, 1);
     }
 
+    /** 19 and 20 are two outcomes: a place that is 0 at first counts as the digit 0, behind a 9 as behind others. */
+    @Sentence("over the places 0 to 2, all 0 at first")
+    static void programsTellAPlaceThatIs0AtFirstAs0() {
+        HearthCache x = new HearthCache();
+        steps(x, 0, LOAD, 0, 0, LOAD, 1, 0);
+        steps(x, 1, STORE, 0, 1, STORE, 1, 9);
+        steps(x, 2, STORE, 0, 2);
+        outcomesAre(x, STRICT, 0, 9, 10, 19, 20, 29);
+        outcomesAre(x, BUFFERED, 0, 9, 10, 19, 20, 29);
+    }
+
     @Sentence("The program is over when all steps are done, and all buffers are empty.")
     static void programsWithoutStepsHaveOneOutcome() {
         HearthCache x = new HearthCache();
@@ -86,6 +97,16 @@ public final class ProgramsBoundaryTest extends Cases {
         HearthCache x = new HearthCache();
         steps(x, 0, STORE, 0, 9, FENCE, 0, 0, STORE, 1, 9);
         steps(x, 1, STORE, 0, 8, STORE, 1, 8);
+        outcomesAre(x, STRICT, 0);
+        outcomesAre(x, BUFFERED, 0);
+    }
+
+    @Sentence("Loads and additions give results.")
+    static void programsOfSixStoresHaveOneOutcome() {
+        HearthCache x = new HearthCache();
+        for (int i = 0; i < 6; i++) {
+            x.step(i % 3, STORE, i % 2, 1 + i);
+        }
         outcomesAre(x, STRICT, 0);
         outcomesAre(x, BUFFERED, 0);
     }
@@ -137,6 +158,18 @@ public final class ProgramsBoundaryTest extends Cases {
         }
         outcomesAre(x, STRICT, 10101);
         outcomesAre(x, BUFFERED, 10101);
+    }
+
+    @Sentence("one decimal digit for each result, by threads, then steps, the first one being the highest")
+    static void programsTellFourResultsOfEachThread() {
+        for (int thread = 0; thread < 3; thread++) {
+            HearthCache x = new HearthCache();
+            for (int i = 0; i < 4; i++) {
+                x.step(thread, ADD, 0, 0);
+            }
+            outcomesAre(x, STRICT, 123);
+            outcomesAre(x, BUFFERED, 123);
+        }
     }
 
     @Sentence("one decimal digit for each result, by threads, then steps, the first one being the highest")
@@ -288,12 +321,20 @@ public final class ProgramsBoundaryTest extends Cases {
         is("alike", x.areAlike(), true);
     }
 
+    /** Each thread by turns is the only one that has a buffer without a fence behind its store. */
     @Sentence("a fence and an addition wait until the buffer is empty")
     static void programsByBufferedOneFenceIsNotEnough() {
-        HearthCache x = new HearthCache();
-        steps(x, 0, STORE, 0, 1, FENCE, 0, 0, LOAD, 1, 0);
-        steps(x, 1, STORE, 1, 1, LOAD, 0, 0);
-        outcomesAre(x, BUFFERED, 0, 1, 10, 11);
+        for (int fenced = 0; fenced < 3; fenced++) {
+            for (int other = 0; other < 3; other++) {
+                if (fenced != other) {
+                    HearthCache x = new HearthCache();
+                    steps(x, fenced, STORE, 0, 1, FENCE, 0, 0, LOAD, 1, 0);
+                    steps(x, other, STORE, 1, 1, LOAD, 0, 0);
+                    outcomesAre(x, STRICT, 1, 10, 11);
+                    outcomesAre(x, BUFFERED, 0, 1, 10, 11);
+                }
+            }
+        }
     }
 
     @Sentence("a fence and an addition wait until the buffer is empty")

@@ -288,7 +288,8 @@ public final class Promises1To8BoundaryTest extends Cases {
         is("one", x.store(0, 3, 1), 1);
         is("the same line", x.store(0, 3, 2), 1);
         is("two", x.store(0, 4, 1), 2);
-        is("the first line again", x.store(0, 3, 0), 2);
+        is("the first line again, with 0", x.store(0, 3, 0), 2);
+        is("once more", x.store(0, 3, 5), 2);
     }
 
     @Sentence("Returns how many stores the buffer, or lines with stores the transaction has then.")

@@ -283,8 +283,8 @@ public final class Promises21To26BoundaryTest extends Cases {
     @Sentence("Throws `IndexOutOfBoundsException` if there is no such outcome")
     static void promise24OutcomePlaceTooLarge() {
         HearthCache x = withUnlikeModels();
-        noneAbove(2, place -> x.outcome(STRICT, place));
         noneAbove(3, place -> x.outcome(BUFFERED, place));
+        noneAbove(2, place -> x.outcome(STRICT, place));
         is("the last one by STRICT", x.outcome(STRICT, 2), 11);
         is("the last one by BUFFERED", x.outcome(BUFFERED, 3), 11);
     }
