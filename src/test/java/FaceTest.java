@@ -62,6 +62,7 @@ public final class FaceTest {
                 privateNames.add(method.getName());
                 continue;
             }
+            Check.count(method.getModifiers() == Modifier.PUBLIC, method + " is just public");
             StringBuilder face = new StringBuilder();
             face.append(method.getReturnType()).append(" ").append(method.getName());
             face.append("(").append(method.getParameterCount()).append(")");
@@ -82,7 +83,11 @@ public final class FaceTest {
         Check.is("constructors", constructors.length, 1);
         Check.count(Modifier.isPublic(constructors[0].getModifiers()), "the constructor is public");
         Check.is("its parameters", constructors[0].getParameterCount(), 0);
-        Check.count(Modifier.isFinal(HearthCache.class.getModifiers()), "the class is final");
+        Check.is("exceptions of the constructor", constructors[0].getExceptionTypes().length, 0);
+        int face = Modifier.PUBLIC | Modifier.FINAL;
+        Check.count(HearthCache.class.getModifiers() == face, "the class is public and final");
+        Check.count(HearthCache.class.getSuperclass() == Object.class, "the class extends nothing");
+        Check.is("interfaces", HearthCache.class.getInterfaces().length, 0);
     }
 
     private static void checkConstants() {
@@ -95,6 +100,8 @@ public final class FaceTest {
             if (Modifier.isPrivate(field.getModifiers())) {
                 continue;
             }
+            int constant = Modifier.PUBLIC | Modifier.STATIC | Modifier.FINAL;
+            Check.count(field.getModifiers() == constant && field.getType() == int.class, field + " is a constant");
             try {
                 got.add(field.getName() + " " + field.getInt(null));
             } catch (IllegalAccessException | RuntimeException e) {
