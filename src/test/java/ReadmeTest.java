@@ -162,7 +162,8 @@ public final class ReadmeTest {
                 Check.count(Files.isExecutable(Path.of(".ci/run")), ".ci/run is not there, or can not be run");
                 continue;
             }
-            Process process = new ProcessBuilder("bash", "-e", "-c", commands).redirectErrorStream(true).start();
+            Process process = new ProcessBuilder("bash", "-e", "-c", commands)
+                    .redirectError(ProcessBuilder.Redirect.INHERIT).start();
             process.getOutputStream().close();
             String said = new String(process.getInputStream().readAllBytes(), StandardCharsets.UTF_8);
             Check.count(process.waitFor() == 0, "the commands of line " + block.firstLine() + " said: " + said);
